@@ -1,0 +1,92 @@
+import java.nio.charset.StandardCharsets;
+import java.util.NoSuchElementException;
+
+/** What the tests share: it counts answers that are not as due, and brings texts onto a tape. */
+final class Check {
+    private static int wrong = 0;
+    private static int asked = 0;
+
+    private Check() {
+    }
+
+    static void due(String call, long got, long want) {
+        asked++;
+        if (got != want) {
+            wrong++;
+            System.out.println(call + " answered " + got + ", due is " + want);
+        }
+    }
+
+    static void due(String call, boolean got, boolean want) {
+        due(call, got ? 1 : 0, want ? 1 : 0);
+    }
+
+    /** lesson(), with -99 for its NoSuchElementException. */
+    static int lesson(LakeLearns x, int l, int what) {
+        try {
+            return x.lesson(l, what);
+        } catch (NoSuchElementException e) {
+            return -99;
+        }
+    }
+
+    /** The tape is these bytes alone. */
+    static void tape(LakeLearns x, byte[] text) {
+        x.end(0);
+        byte[] padded = java.util.Arrays.copyOf(text, (text.length + 19) / 20 * 20);
+        for (int i = 0; i < padded.length; i += 20) {
+            x.feed(number(padded, i), number(padded, i + 4), number(padded, i + 8), number(padded, i + 12),
+                number(padded, i + 16));
+        }
+        x.end(text.length);
+    }
+
+    private static int number(byte[] bytes, int at) {
+        return (bytes[at] & 255) << 24 | (bytes[at + 1] & 255) << 16 | (bytes[at + 2] & 255) << 8 | bytes[at + 3] & 255;
+    }
+
+    static void tape(LakeLearns x, String text) {
+        tape(x, text.getBytes(StandardCharsets.ISO_8859_1));
+    }
+
+    static void tape(LakeLearns x, int... bytes) {
+        byte[] text = new byte[bytes.length];
+        for (int i = 0; i < bytes.length; i++) {
+            text[i] = (byte) bytes[i];
+        }
+        tape(x, text);
+    }
+
+    static int lake(LakeLearns x, String text) {
+        tape(x, text);
+        return x.lake();
+    }
+
+    static LakeLearns lakeOf(String text) {
+        LakeLearns x = new LakeLearns();
+        due("lake has a fault: " + text, lake(x, text) >= 0, true);
+        return x;
+    }
+
+    static int diary(LakeLearns x, int lives, String text) {
+        tape(x, text);
+        return x.diary(lives);
+    }
+
+    static int sentence(LakeLearns x, String text) {
+        tape(x, text);
+        return x.sentence();
+    }
+
+    static String times(String text, int n) {
+        return text.repeat(n);
+    }
+
+    /** Ends the test: exit code 1 if an answer was not as due. */
+    static void close(String name) {
+        System.out.println(name + ": " + asked + " answers, " + wrong + " not as due");
+        if (wrong != 0 || asked == 0) {
+            System.exit(1);
+        }
+    }
+}
