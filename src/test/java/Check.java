@@ -78,6 +78,29 @@ final class Check {
         return x.sentence();
     }
 
+    /** All that is so, and all of the LAKE that can be asked for, as one text. */
+    static String allOf(LakeLearns x) {
+        StringBuilder all = new StringBuilder();
+        for (int what = 0; what < 8; what++) {
+            all.append(" now ").append(x.now(what)).append(" height ").append(x.height(what));
+            all.append(what < 7 ? " count " + x.count(what) : "").append(" said ").append(x.said(what));
+            all.append(" dry ").append(x.dry(what)).append(" forgets ").append(x.forgets(what));
+            for (int i = 0; i < 8; i++) {
+                all.append(" lesson ").append(lesson(x, i, what)).append(" boat ").append(x.boat(i, what));
+                all.append(" step ").append(x.step(i, what)).append(" does ").append(x.does(what, i));
+            }
+        }
+        return all.append(" ice ").append(x.ice()).toString();
+    }
+
+    static void due(String call, String got, String want) {
+        if (!got.equals(want)) {
+            System.out.println(got);
+            System.out.println(want);
+        }
+        due(call, got.equals(want), true);
+    }
+
     static String times(String text, int n) {
         return text.repeat(n);
     }

@@ -67,6 +67,11 @@ public final class DiaryTest {
         Check.due("as far as it is not WRONG", x.now(0), 1);
         Check.due("rung", x.height(2), 3);
         Check.due("sailed", x.boat(0, 3), 1);
+        Check.due("by whom", Check.diary(x, 1, "gig sails 1;bob shows wave;ann shows swim;"), -1);
+        Check.due("gig", x.boat(1, 0), 1);
+        Check.due("bob", Check.lesson(x, 2, 6), 1);
+        Check.due("ann", Check.lesson(x, 1, 6), 0);
+        Check.due("told", Check.diary(x, 0, "gig sails 1;"), 0);
         Check.due("a new LAKE", Check.lake(x, ""), 0);
         Check.due("told stays", x.told(0), 21);
     }

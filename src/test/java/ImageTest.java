@@ -7,6 +7,7 @@ public final class ImageTest {
         allThatIsSo();
         whatStays();
         keptAnew();
+        nothingIsLeftOut();
         Check.close("ImageTest");
     }
 
@@ -78,6 +79,51 @@ public final class ImageTest {
         Check.due("no SENTENCE was kept", x.said(-1), -1);
         Check.due("nothing can be undone", x.undo(), -1);
         Check.due("DAY 0", x.now(0), 0);
+    }
+
+    private static final String RICH = "cells 8;shown 2;keeps 3;nights 7;ice 9 2;cue a;cue b;lesson c a 7 3 6 2;"
+        + "lesson d b 5 3 4 1;lesson e a 7 1;lesson f b 1 1;teacher t;teacher s;boat g 7;boat h 4;";
+
+    private static void richLife(LakeLearns x) {
+        x.show(1, 0);
+        x.days(1);
+        x.show(1, 0);
+        x.show(0, 3);
+        x.days(1);
+        x.ring(0);
+        x.days(4);
+        x.show(1, 1);
+        x.days(1);
+        x.show(0, 1);
+        x.days(1);
+        x.sail(1, 5);
+        x.sail(0, 0);
+        x.ring(1);
+        x.show(1, 0);
+        Check.sentence(x, "known or not done>0 and number>2");
+    }
+
+    private static void nothingIsLeftOut() {
+        LakeLearns x = Check.lakeOf(RICH);
+        richLife(x);
+        String rich = Check.allOf(x);
+        x.image(1);
+        Check.lake(x, "cells 2;cue q;cue r;cue b;lesson l r;lesson m r 0 1;teacher n;boat o 1;boat p 1;");
+        String other = Check.allOf(x);
+        x.image(0);
+        x.restore(1);
+        Check.due("all as kept in 1", Check.allOf(x), rich);
+        x.restore(0);
+        Check.due("all as kept in 0", Check.allOf(x), other);
+        x.restore(1);
+        x.drawn(60, 3);
+        x.drawn(60, 4);
+        Check.due("much is else", Check.allOf(x).equals(rich), false);
+        x.undo();
+        x.undo();
+        Check.due("all as it was ahead of the acts", Check.allOf(x), rich);
+        Check.due("the NAMES too", Check.diary(x, 0, "h sails 0;s shows c;"), 1);
+        Check.due("why", x.told(0), 2);
     }
 
     private static void keptAnew() {

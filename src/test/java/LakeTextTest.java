@@ -35,6 +35,7 @@ public final class LakeTextTest {
         fine("ice 50 50;", 1);
         fine("cells 008;", 1);
         fine("cue abcdefg;", 1);
+        fine("cue azz;cue zza;teacher z;", 3);
         fine("cue a;teacher b;cells 5;lesson c a 4 3;boat d 4;", 5);
         fine("cue\na\n;\ncue b;", 2);
         fine("cue a;lesson b a;", 2);
@@ -174,6 +175,36 @@ public final class LakeTextTest {
         Check.due("no CUES", x.count(3), 0);
         Check.due("no SENTENCE", x.said(-1), -1);
         Check.due("nothing to undo", x.undo(), -1);
+        LakeLearns y = Check.lakeOf(RICH);
+        String anew = Check.allOf(y);
+        richLife(y);
+        Check.due("a life changes it", Check.allOf(y).equals(anew), false);
+        Check.lake(y, RICH);
+        Check.due("the same LAKE anew", Check.allOf(y), anew);
+        richLife(y);
+        Check.lake(y, "");
+        Check.due("an empty LAKE is as at first", Check.allOf(y), Check.allOf(new LakeLearns()));
+        Check.lake(y, "cue a;lesson b a;");
+        Check.due("nothing of the old LESSON", y.step(0, 0) + 10 * y.does(0, 1), -1);
+    }
+
+    private static final String RICH = "cells 8;shown 1;keeps 3;nights 7;ice 9 2;cue a;cue b;lesson c a 7 3 6 2;lesson d b 5 3 4 1;"
+        + "lesson e a 7 1;lesson f b 1 1;teacher t;teacher s;boat g 7;boat h 4;";
+
+    /** Nothing is left as in a new LAKE: one LESSON was forgotten, one is KNOWN, one was shown today. */
+    private static void richLife(LakeLearns x) {
+        x.show(1, 0);
+        x.days(1);
+        x.ring(0);
+        x.days(4);
+        x.show(1, 1);
+        x.days(1);
+        x.sail(1, 5);
+        x.sail(0, 0);
+        x.ring(1);
+        x.show(1, 0);
+        Check.due("forgotten", Check.lesson(x, 0, 7), 1);
+        Check.due("wet", x.now(6), 2 + 1);
     }
 
     private static void faultOfTheLatest() {

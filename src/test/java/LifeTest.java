@@ -15,6 +15,7 @@ public final class LifeTest {
         sailing();
         days();
         forgetting();
+        forgettingSome();
         nights();
         iceForgets();
         theLastDay();
@@ -104,7 +105,9 @@ public final class LifeTest {
         Check.due("the next RING: cell 2", x.height(2), 0);
         x.ring(0);
         x.days(1);
-        Check.due("the end of the DAY", x.height(2), 0);
+        for (int c = 0; c < 3; c++) {
+            Check.due("the end of the DAY: height(" + c + ")", x.height(c), 0);
+        }
     }
 
     /** POND, in which 'ring' is KNOWN, on DAY 2. */
@@ -270,6 +273,27 @@ public final class LifeTest {
         Check.due("it can be shown again", x.show(0, 0), 0);
         x.days(1);
         Check.due("and known again", x.now(2), 1);
+    }
+
+    /** Each LESSON is kept and forgotten by itself, and one that was never KNOWN is never forgotten. */
+    private static void forgettingSome() {
+        LakeLearns x = Check.lakeOf("shown 1;keeps 3;cue a;cue b;cue c;lesson d a;lesson e b;lesson f c;lesson g c;teacher t;");
+        x.show(0, 0);
+        x.show(0, 2);
+        x.days(1);
+        x.show(0, 1);
+        x.days(1);
+        x.ring(2);
+        x.days(2);
+        Check.due("d was learnt on DAY 0", x.now(2), 6);
+        x.days(1);
+        Check.due("e on DAY 1, f was done on DAY 2", x.now(2), 4);
+        x.days(1);
+        Check.due("all are forgotten", x.now(2), 0);
+        x.days(20);
+        for (int l = 0; l < 4; l++) {
+            Check.due("how often: " + l, Check.lesson(x, l, 7), l < 3 ? 1 : 0);
+        }
     }
 
     private static void nights() {
