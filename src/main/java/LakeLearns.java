@@ -312,7 +312,7 @@ public final class LakeLearns {
     public int learnt() {
         int length = bytes;
         bytes = 0;
-        return guess.hear(lake, tape, length);
+        return guess.judge(lake, tape, length);
     }
 
     public int surely() {
@@ -433,7 +433,7 @@ public final class LakeLearns {
         int went = Math.min(n, life.daysLeft());
         if (went > 0) {
             past.keep(life);
-            draw.live(lake, life, went, seed);
+            draw.liveDrawn(lake, life, went, seed);
         }
         return went;
     }
@@ -446,7 +446,7 @@ public final class LakeLearns {
         int known = 0;
         for (int i = 0; i < n; i++) {
             trial.copyFrom(life);
-            draw.live(lake, trial, went, seed + i);
+            draw.liveDrawn(lake, trial, went, seed + i);
             known += trial.known >> l & 1;
         }
         return known;
@@ -464,10 +464,10 @@ public final class LakeLearns {
         }
         if (lives == 1) {
             past.keep(life);
-            return diary.live(lake, life, toldLast);
+            return diary.liveLines(lake, life, toldLast);
         }
         trial.copyFrom(life);
-        return diary.live(lake, trial, toldLast);
+        return diary.liveLines(lake, trial, toldLast);
     }
 
     public int told(int what) {
@@ -1247,14 +1247,14 @@ public final class LakeLearns {
             return n > 0 ? (x >>> 8) % n : 0;
         }
 
-        void live(Lake lake, Life life, int n, int seed) {
+        void liveDrawn(Lake lake, Life life, int n, int seed) {
             x = seed;
             for (int i = 0; i < n; i++) {
-                liveDay(lake, life);
+                drawDay(lake, life);
             }
         }
 
-        private void liveDay(Lake lake, Life life) {
+        private void drawDay(Lake lake, Life life) {
             for (int t = 0; t < lake.counts[TEACHER]; t++) {
                 if (of(2) == 0) {
                     int l = of(lake.counts[LESSON]);
@@ -1285,7 +1285,7 @@ public final class LakeLearns {
         private int held = 0;
         private final int[] unlike = new int[SETS_MOST];
 
-        int hear(Lake lake, byte[] text, int length) {
+        int judge(Lake lake, byte[] text, int length) {
             if (!listen(lake, text, length)) {
                 return NONE;
             }
@@ -1435,7 +1435,7 @@ public final class LakeLearns {
         }
 
         /** The LINE that is WRONG, or NONE; told gets what told() answers. */
-        int live(Lake lake, Life life, int[] told) {
+        int liveLines(Lake lake, Life life, int[] told) {
             int why = 0;
             int line = 0;
             while (line < lines && why == 0) {
@@ -1606,32 +1606,26 @@ public final class LakeLearns {
             return readCond(lake, 1) && (reader.kind == END || reader.fail(CANT_COME));
         }
 
+        /** An 'or' joins only when the ALL behind it has ended: at the next 'or', or at the end. */
         private boolean readCond(Lake lake, int depth) {
-            if (!readAll(lake, depth)) {
-                return false;
-            }
-            for (int i = 0; i < ONES_MOST && reader.isKey(KEY_OR); i++) {
-                reader.advance();
-                if (!readAll(lake, depth)) {
-                    return false;
+            boolean read = readOne(lake, depth);
+            boolean orOpen = false;
+            for (int i = 0; i <= ONES_MOST && read && (reader.isKey(KEY_OR) || reader.isKey(KEY_AND)); i++) {
+                boolean or = reader.isKey(KEY_OR);
+                if (or && orOpen) {
+                    draft.add(KEY_OR, NONE, NONE);
                 }
+                orOpen |= or;
+                reader.advance();
+                read = readOne(lake, depth);
+                if (!or) {
+                    draft.add(KEY_AND, NONE, NONE);
+                }
+            }
+            if (orOpen) {
                 draft.add(KEY_OR, NONE, NONE);
             }
-            return true;
-        }
-
-        private boolean readAll(Lake lake, int depth) {
-            if (!readOne(lake, depth)) {
-                return false;
-            }
-            for (int i = 0; i < ONES_MOST && reader.isKey(KEY_AND); i++) {
-                reader.advance();
-                if (!readOne(lake, depth)) {
-                    return false;
-                }
-                draft.add(KEY_AND, NONE, NONE);
-            }
-            return true;
+            return read;
         }
 
         private boolean readOne(Lake lake, int depth) {
