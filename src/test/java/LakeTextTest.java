@@ -186,6 +186,8 @@ public final class LakeTextTest {
         Check.due("an empty LAKE is as at first", Check.allOf(y), Check.allOf(new LakeLearns()));
         Check.lake(y, "cue a;lesson b a;");
         Check.due("nothing of the old LESSON", y.step(0, 0) + 10 * y.does(0, 1), -1);
+        Check.lake(y, "cue a;cue b;lesson c b 0 1;");
+        Check.due("of its own CUE alone", 10 * y.does(0, 1) + y.does(1, 1), 1);
     }
 
     private static final String RICH = "cells 8;shown 1;keeps 3;nights 7;ice 9 2;cue a;cue b;lesson c a 7 3 6 2;lesson d b 5 3 4 1;"

@@ -24,6 +24,7 @@ public final class LearntTest {
 
     public static void main(String[] args) {
         learning();
+        learningLong();
         notAsTold();
         asking();
         teaching();
@@ -53,6 +54,21 @@ public final class LearntTest {
         learnt(y, 1, 0, 0);
         known(y, 0, 0, 0);
         learnt(y, 0, 0, 1);
+    }
+
+    /** The longest tape there is: 235 times the same. */
+    private static void learningLong() {
+        LakeLearns x = Check.lakeOf(POND);
+        int[] tape = new int[940];
+        for (int i = 0; i < tape.length; i++) {
+            tape[i] = i % 4;
+        }
+        learnt(x, 2, tape);
+        known(x, 1, 2, 1);
+        tape[939] = 2;
+        learnt(x, 0, tape);
+        tape[939] = 4;
+        learnt(x, -1, tape);
     }
 
     private static void notAsTold() {
