@@ -1,20 +1,34 @@
 import java.nio.charset.StandardCharsets;
 import java.util.NoSuchElementException;
+import java.util.function.IntSupplier;
 
 /** What the tests share: it counts answers that are not as due, and brings texts onto a tape. */
 final class Check {
     private static int wrong = 0;
     private static int asked = 0;
+    private static String sentence = "";
 
     private Check() {
+    }
+
+    /** Answers from here on are due by this sentence of the document, which this promise makes or rests on. */
+    static void by(int promise, String words) {
+        sentence = "Promise " + promise + " (" + words + "): ";
     }
 
     static void due(String call, long got, long want) {
         asked++;
         if (got != want) {
             wrong++;
-            System.out.println(call + " answered " + got + ", due is " + want);
+            System.out.println(sentence + call + " answered " + got + ", due is " + want);
         }
+    }
+
+    /** A call that is refused answers so, and all else is behind it as it was ahead of it. */
+    static void refused(LakeLearns x, String call, int want, IntSupplier made) {
+        String before = allOf(x) + lastOf(x);
+        due(call, made.getAsInt(), want);
+        due(call + " changes nothing", allOf(x) + lastOf(x), before);
     }
 
     static void due(String call, boolean got, boolean want) {
@@ -93,12 +107,30 @@ final class Check {
         return all.append(" ice ").append(x.ice()).toString();
     }
 
+    /** The tape's length, and what other calls told last. */
+    static String lastOf(LakeLearns x) {
+        return " tape " + x.count(7) + " fault " + x.fault() + " told " + x.told(0) + " " + x.told(1) + " " + x.told(2) + " "
+            + x.told(3) + " learnt " + x.surely() + " " + x.never() + " " + x.ask() + " taught " + x.taught();
+    }
+
     static void due(String call, String got, String want) {
         if (!got.equals(want)) {
             System.out.println(got);
             System.out.println(want);
         }
         due(call, got.equals(want), true);
+    }
+
+    /** DAYS go by till it is that one. */
+    static void till(LakeLearns x, int day) {
+        while (x.now(0) < day) {
+            x.days(Math.min(60, day - x.now(0)));
+        }
+        due("it is DAY " + day, x.now(0), day);
+    }
+
+    static String blanks(int n) {
+        return " ".repeat(n);
     }
 
     static String times(String text, int n) {
