@@ -278,6 +278,10 @@ public final class EdgeAskedTest {
                 stillPair(" 0 " + first, " 7 " + second, 0);
             }
         }
+        for (int high = 1; high <= 3; high++) {
+            stillPair(" 0 " + high, " 0 " + (4 - high), 1);
+            stillPair(" 3 " + high + " 0 1", " 3 " + (4 - high) + " 0 3", 1);
+        }
         stillPair("", "", 0);
         stillPair("", " 0 2", 0);
         stillPair(" 0 2 0 2", " 0 2 0 2", 0);

@@ -60,8 +60,8 @@ public final class EdgeDrawnTest {
     }
 
     private static void howManyDays() {
-        Check.by(32, "n (1 to 60) DAYS DRAWN by a seed: how many went by");
         for (int n : new int[] {1, 2, 59, 60}) {
+            Check.by(32, "n (1 to 60) DAYS DRAWN by a seed: how many went by");
             LakeLearns drawn = Check.lakeOf(POND);
             LakeLearns lived = Check.lakeOf(POND);
             Check.due("drawn(" + n + ", 77)", drawn.drawn(n, 77), n);

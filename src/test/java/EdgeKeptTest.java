@@ -169,21 +169,29 @@ public final class EdgeKeptTest {
 
     private static void newLake() {
         Check.by(4, "A new LAKE: DAY 0, nothing shown, no BOAT wet, no SENTENCE");
-        String anew = Check.allOf(Check.lakeOf(POND));
-        LakeLearns x = lived();
-        x.sail(1, 2);
-        x.show(0, 2);
-        x.days(9);
-        x.show(1, 1);
-        x.ring(0);
-        Check.sentence(x, "known");
-        Check.due("much is else", Check.allOf(x).equals(anew), false);
-        Check.due("the same LAKE again", Check.lake(x, POND), 13);
+        String anew = Check.allOf(Check.lakeOf(RICH));
+        LakeLearns x = Check.lakeOf(RICH);
+        liveRichly(x);
+        Check.due("the same LAKE again", Check.lake(x, RICH), 19);
         Check.due("all is as at first", Check.allOf(x), anew);
         Check.due("no SENTENCE", x.said(-1), -1);
         Check.due("what was ahead of it can't be undone", x.undo(), -1);
+        liveRichly(x);
         Check.due("an empty one", Check.lake(x, ""), 0);
         Check.due("all is as of a new object", Check.allOf(x), Check.allOf(new LakeLearns()));
+        Check.by(4, "The tape is the LAKE now: nothing of the LAKE ahead of it is left");
+        Check.lake(x, "cue a;cue b;lesson c a 0 1 1 1;lesson d a 2 1;");
+        Check.lake(x, "cue a;cue b;lesson c b 3 1;lesson d b;");
+        Check.due("LESSONS of CUE 0", x.does(0, 3), 0);
+        Check.due("LESSONS of CUE 1", x.does(1, 3), 64);
+        Check.due("STEPS", Check.lesson(x, 0, 1) + 10 * Check.lesson(x, 1, 1), 1);
+        Check.lake(x, "cue a;lesson b a 0 1 1 3 2 3 3 3 1 3 2 3 3 3 0 3;lesson c a 0 1 1 3 2 3 3 3 1 3 2 3 3 3 0 3;");
+        Check.lake(x, "cue a;lesson b a 0 1;lesson c a 1 1;");
+        Check.due("STEPS behind the last are none", x.waves(0, 3), 0);
+        Check.due("nor are they done", x.does(0, 3), 5);
+        Check.due("nor told", x.step(0, 1), -1);
+        Check.due("a NAME of the old LAKE can be told anew", Check.lake(x, "lesson a;"), -9);
+        Check.due("and is not told ahead of that", Check.lake(x, "cue d;lesson c b;"), -16);
         Check.by(21, "by the latest learnt() (teach(), diary()) : a new LAKE tells nothing of that");
         LakeLearns y = lived();
         Check.tape(y, 0, 1, 2, 3);
@@ -194,6 +202,36 @@ public final class EdgeKeptTest {
         String last = Check.lastOf(y);
         Check.lake(y, "cells 1;");
         Check.due("what was told last stays", Check.lastOf(y), last);
+    }
+
+    private static final String RICH = "cells 8;shown 2;keeps 3;nights 7;ice 40 9;cue a;cue b;cue c;cue d;lesson e a 7 3 6 2;"
+        + "lesson f b 5 3 4 1;lesson g c 0 3;lesson h d;teacher i;teacher j;boat k 7;boat l 5;boat m 0;boat n 1;";
+
+    /** Nothing is behind it as in a new LAKE: one LESSON was forgotten, one is KNOWN, one shown once, one shown today. */
+    private static void liveRichly(LakeLearns x) {
+        for (int i = 0; i < 2; i++) {
+            x.show(1, 0);
+            x.days(1);
+        }
+        x.ring(0);
+        x.days(4);
+        for (int i = 0; i < 2; i++) {
+            x.show(1, 1);
+            x.show(0, i == 0 ? 2 : 3);
+            x.days(1);
+        }
+        x.ring(1);
+        x.sail(3, 2);
+        x.sail(0, 0);
+        x.show(1, 0);
+        Check.sentence(x, "known");
+        Check.due("DAY, KNOWN, shown, RINGS, wet, showings", x.now(0) + 10 * x.now(2) + 100 * x.now(3) + 1000 * x.now(5)
+            + 10000 * x.now(6) + 100000 * x.now(7), 8 + 20 + 100 + 2000 + 30000 + 700000);
+        Check.due("HEIGHTS", x.height(5) + 10 * x.height(4), 13);
+        Check.due("showings", Check.lesson(x, 1, 2) + 10 * Check.lesson(x, 2, 2), 12);
+        Check.due("TEACHERS", Check.lesson(x, 1, 4) + 10 * Check.lesson(x, 2, 4), 12);
+        Check.due("done, forgotten, today", Check.lesson(x, 0, 5) + 10 * Check.lesson(x, 0, 7) + 100 * Check.lesson(x, 0, 6), 111);
+        Check.due("voyages, how often wet", x.boat(0, 3) + 10 * x.boat(3, 3) + 100 * x.boat(0, 2) + 1000 * x.boat(1, 2), 1111);
     }
 
     private static void faultyLake() {
@@ -210,9 +248,9 @@ public final class EdgeKeptTest {
     }
 
     private static void places() {
-        Check.by(38, "are kept in place k (0, 1): true; false: no such one");
         for (int k : new int[] {-1, 2, 3, Integer.MIN_VALUE, Integer.MAX_VALUE}) {
             LakeLearns x = lived();
+            Check.by(38, "are kept in place k (0, 1): true; false: no such one");
             Check.refused(x, "image(" + k + ")", 0, () -> x.image(k) ? 1 : 0);
             Check.by(39, "false: no such one, or nothing is kept there");
             Check.refused(x, "restore(" + k + ")", 0, () -> x.restore(k) ? 1 : 0);
@@ -234,12 +272,13 @@ public final class EdgeKeptTest {
 
     private static void asKept() {
         Check.by(39, "They are as kept in place k");
-        LakeLearns x = lived();
+        LakeLearns x = Check.lakeOf(RICH);
+        liveRichly(x);
         Check.sentence(x, "number>0");
         String first = Check.allOf(x);
         x.image(0);
         Check.due("image() changes nothing", Check.allOf(x), first);
-        Check.due("nor what can be undone", x.undo(), 2);
+        Check.due("nor what can be undone", x.undo(), 7);
         Check.lake(x, "cells 8;shown 9;keeps 99;nights 3;ice 0 50;cue a;cue b;cue c;cue d;cue e;cue f;lesson g f 7 3;"
             + "teacher h;teacher i;teacher j;teacher k;boat l 7;boat m 6;boat n 5;boat o 4;boat p 3;boat q 2;");
         x.days(60);
@@ -249,7 +288,7 @@ public final class EdgeKeptTest {
         for (int i = 0; i < 3; i++) {
             x.restore(0);
             Check.due("as kept in 0", Check.allOf(x), first);
-            Check.due("the NAMES of 0", Check.diary(x, 0, "tub sails 0;ann shows wave;rings bell;"), -1);
+            Check.due("the NAMES of 0", Check.diary(x, 0, "k sails 1;j shows h;rings d;"), -1);
             x.drawn(30, i);
             Check.sentence(x, "known");
             x.restore(1);

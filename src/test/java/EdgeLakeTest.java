@@ -41,6 +41,7 @@ public final class EdgeLakeTest {
         cellsOfLessonsAndBoats();
         highs();
         stepsMost();
+        firstWords();
         keysAreNoNames();
         namesToldOnce();
         namesOfAnotherSort();
@@ -246,8 +247,8 @@ public final class EdgeLakeTest {
     }
 
     private static void iceTogether() {
-        Check.by(4, "FROM and LONG 100 at most");
         for (int from = 49; from <= 99; from++) {
+            Check.by(4, "FROM and LONG 100 at most");
             int most = Math.min(50, 100 - from);
             fine("ice " + from + " " + most + ";", 1);
             fault("ice " + from + " " + (most + 1) + ";", 7, 2);
@@ -327,6 +328,21 @@ public final class EdgeLakeTest {
         String seven = "cue a;lesson b a" + Check.times(" 0 1", 7);
         fault(seven + " 4 1;", seven.length() + 1, 2);
         fine("cue a;lesson b a" + Check.times(" 0 1", 8) + ";lesson c a" + Check.times(" 0 1", 8) + ";", 3);
+    }
+
+    private static void firstWords() {
+        Check.by(5, "one that can't come (1, at it): a LINE begins with a WORD of a LAKE");
+        for (int i = 0; i < KEYS.length; i++) {
+            if (i >= 9) {
+                fault(KEYS[i] + " a;", 0, 1);
+                fault("cue a;" + KEYS[i] + " a;", 6, 1);
+            } else {
+                fault("cue a;" + KEYS[i], 6 + KEYS[i].length(), 1);
+            }
+        }
+        fault("a;", 0, 1);
+        fault("cue a;a;", 6, 1);
+        fault("cue a;4;", 6, 1);
     }
 
     private static void keysAreNoNames() {

@@ -333,6 +333,9 @@ public final class EdgeSentenceTest {
             + "lesson i a;");
         said(x, "at a", 1, 0, 1, 2, 3, 4, 5, 6, 7);
         said(x, "not at a", 2);
+        for (String all : new String[] {"times=0", "steps<1", "done<1", "number<8", "not known", "not today"}) {
+            said(x, all, all.startsWith("not") ? 2 : 1, 0, 1, 2, 3, 4, 5, 6, 7);
+        }
         said(x, "number=0 or number=7", 2, 0, 7);
         said(x, "number>6", 1, 7);
         said(x, "number<1", 1, 0);
