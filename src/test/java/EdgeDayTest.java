@@ -35,7 +35,7 @@ public final class EdgeDayTest {
         Check.close("EdgeDayTest");
     }
 
-    /** An eight-LESSON LAKE in which each is KNOWN behind DAY 0, if it is the only one of its CUE that is shown. */
+    /** As many CELLS as there may be, and a LESSON is KNOWN by one showing. */
     private static LakeLearns quick(String more) {
         return Check.lakeOf("cells 8;shown 1;" + more);
     }
@@ -204,7 +204,7 @@ public final class EdgeDayTest {
             }
         }
         LakeLearns none = Check.lakeOf("cue a;");
-        for (int day = 0; day <= 600; day += 1) {
+        for (int day = 0; day <= 600; day++) {
             Check.due("none was told, DAY " + day, none.now(1) + none.ring(0), 0);
             none.days(1);
         }

@@ -89,13 +89,11 @@ public final class EdgeSentenceTest {
                 "not" + Check.blanks(bytes - 8) + "known", "at" + Check.blanks(bytes - 6) + "moon"};
             int[][] due = {{1, 2}, {1, 2}, {2, 0, 1, 3}, {1, 2, 3}};
             for (int i = 0; i < texts.length; i++) {
-                int first = texts[i].lastIndexOf(' ') + 1;
                 if (bytes <= 200) {
                     said(texts[i], due[i][0], Arrays.copyOfRange(due[i], 1, due[i].length));
                 } else {
                     fault(texts[i], 200, 1);
                 }
-                Check.due("a TOKEN begins ahead of 200, or none is behind it", i == 0 || first < 200, true);
             }
             fault("known or" + Check.blanks(bytes - 8), Math.min(bytes, 200), 1);
         }
