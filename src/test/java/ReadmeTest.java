@@ -17,10 +17,16 @@ public final class ReadmeTest {
 
     public static void main(String[] args) throws Exception {
         List<String> page = Files.readAllLines(Path.of("README.md"));
-        examples(page);
+        examples(joined(page));
         allCalls(String.join("\n", page));
         table(page);
         Check.close("ReadmeTest");
+    }
+
+    /** A text that goes on over lines becomes one line. */
+    private static List<String> joined(List<String> page) {
+        String text = String.join("\n", page);
+        return List.of(text.replaceAll("\"\\n +\\+ \"", "").split("\n"));
     }
 
     private static void examples(List<String> page) throws Exception {
