@@ -398,7 +398,8 @@ public final class LakeLearns {
             return NONE;
         }
         int kept = life.kept[l];
-        for (int d = life.day; d < life.day + FORGETS_MOST; d++) {
+        int over = Math.min(ALL_OVER, life.day + FORGETS_MOST);
+        for (int d = life.day; d < over; d++) {
             if (lake.practisesOn(d)) {
                 kept = d;
             }

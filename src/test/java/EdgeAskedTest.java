@@ -158,16 +158,75 @@ public final class EdgeAskedTest {
         }
     }
 
-    /** As with ice(), DAYS that would come behind the last one are counted on. */
+    /** Of forgets, unlike ice, the document doesn't say that it counts behind the last DAY. */
     private static void forgetsBehindTheLast() {
-        Check.by(28, "In how many DAYS: also behind the last DAY");
-        LakeLearns x = Check.lakeOf("keeps 9;shown 1;cue a;lesson b a;teacher t;");
-        Check.till(x, 598);
+        Check.by(28, "In how many DAYS (0 to 599; 600: all are over)");
+        for (int keeps : new int[] {1, 2, 9, 20, 98, 99}) {
+            for (int learnt = 598 - keeps; learnt <= Math.min(599, 602 - keeps); learnt++) {
+                LakeLearns x = learntOn("keeps " + keeps + ";", learnt);
+                String where = "keeps " + keeps + ", learnt on " + learnt + ": ";
+                Check.due(where + "forgets(0)", x.forgets(0), learnt + keeps <= 599 ? keeps : -1);
+                Check.due(where + "as it is lived", x.forgets(0), lived(learntOn("keeps " + keeps + ";", learnt)));
+                Check.till(x, Math.max(599, x.now(0)));
+                Check.due(where + "then", x.forgets(0), learnt + keeps == 599 ? 1 : -1);
+                x.ring(0);
+                Check.due(where + "done then", x.forgets(0), -1);
+                Check.till(x, 600);
+                Check.due(where + "on 600", x.forgets(0), -1);
+            }
+        }
+        forgetsOn600();
+        forgetsByLastNights();
+    }
+
+    private static LakeLearns learntOn(String settings, int day) {
+        LakeLearns x = Check.lakeOf(settings + "shown 1;cue a;lesson b a;teacher t;");
+        Check.till(x, day);
         x.show(0, 0);
         x.days(1);
-        Check.due("on 599", x.forgets(0), 9);
-        x.days(1);
-        Check.due("on 600", x.forgets(0), 8);
+        return x;
+    }
+
+    /** In how many DAYS it is forgotten as they go by one by one; NONE if all are over, or 200 went by. */
+    private static int lived(LakeLearns x) {
+        for (int day = 1; day <= 200 && x.days(1) == 1; day++) {
+            if (x.now(2) == 0) {
+                return day;
+            }
+        }
+        return -1;
+    }
+
+    private static void forgetsOn600() {
+        LakeLearns x = learntOn("keeps 1;", 599);
+        Check.due("learnt on the last DAY", x.now(2), 1);
+        Check.due("on 600, no DAY ends any more", x.forgets(0), -1);
+        x.ring(0);
+        Check.due("done on 600", x.forgets(0), -1);
+        LakeLearns y = learntOn("keeps 9;", 590);
+        Check.till(y, 598);
+        Check.due("on 598", y.forgets(0), 2);
+        y.days(1);
+        Check.due("on 599", y.forgets(0), 1);
+        y.days(1);
+        Check.due("forgotten at the end of the last DAY", y.now(2), 0);
+        Check.due("on 600", y.forgets(0), -1);
+        y.undo();
+        Check.due("undone: on 599", y.forgets(0), 1);
+        y.ring(0);
+        Check.due("done on 599", y.forgets(0), -1);
+    }
+
+    private static void forgetsByLastNights() {
+        for (int nights : new int[] {2, 7, 29, 30}) {
+            for (int keeps : new int[] {1, nights / 2, nights - 1}) {
+                for (int learnt = 560; learnt <= 599; learnt++) {
+                    String settings = "keeps " + keeps + ";nights " + nights + ";";
+                    Check.due(settings + " learnt on " + learnt, learntOn(settings, learnt).forgets(0),
+                        lived(learntOn(settings, learnt)));
+                }
+            }
+        }
     }
 
     private static void pupilsEdges() {

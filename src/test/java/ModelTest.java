@@ -639,7 +639,7 @@ public final class ModelTest {
                 return -1;
             }
             Life later = life.copy();
-            for (int i = 1; i <= 200; i++) {
+            for (int i = 1; i <= 200 && later.day < 600; i++) {
                 later.endDay(lake);
                 if (later.lessons[l][5] > life.lessons[l][5]) {
                     return i;
@@ -1019,6 +1019,9 @@ public final class ModelTest {
             tape(x, m, maybeSpoilt(lakeText(), 9));
             Check.due("run " + run + ": lake()", x.lake(), m.lake());
             Check.due("run " + run + ": fault()", x.fault(), m.fault);
+            if (roll(4) == 0) {
+                growLate(x, m, "run " + run + ": ");
+            }
             for (int call = 0; call < 90; call++) {
                 String where = "run " + run + ", call " + call + ": ";
                 if (roll(3) > 0) {
@@ -1031,6 +1034,15 @@ public final class ModelTest {
             }
         }
         Check.close("ModelTest");
+    }
+
+    /** By acts alone few runs would come to the last DAYS. */
+    private static void growLate(LakeLearns x, Model m, String where) {
+        for (int i = 0; i < 9; i++) {
+            Check.due(where + "days(60)", x.days(60), m.days(60, false));
+        }
+        int n = 1 + roll(60);
+        Check.due(where + "days(" + n + ")", x.days(n), m.days(n, false));
     }
 
     /** A number from 0 up, and now and then one that is too low or too high. */
