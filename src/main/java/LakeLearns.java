@@ -463,12 +463,14 @@ public final class LakeLearns {
         if (!read) {
             return -2 - reader.place;
         }
-        if (lives == 1) {
-            past.keep(life);
-            return diary.liveLines(lake, life, toldLast);
-        }
         trial.copyFrom(life);
-        return diary.liveLines(lake, trial, toldLast);
+        int wrong = diary.liveLines(lake, trial, toldLast);
+        // A DIARY of which no LINE was lived is no act: it must not push another one out of the past.
+        if (lives == 1 && toldLast[1] > 0) {
+            past.keep(life);
+            life.copyFrom(trial);
+        }
+        return wrong;
     }
 
     public int told(int what) {

@@ -18,8 +18,12 @@ public final class EdgeDiaryTest {
         }
         Check.due("the DAY when it was lived: " + text, x.now(0), told[2]);
         Check.due("what is KNOWN when it was lived: " + text, x.now(2), told[3]);
-        x.undo();
-        Check.due("undone, all is as it was: " + text, Check.allOf(x), before);
+        if (told[1] > 0) {
+            x.undo();
+            Check.due("undone, all is as it was: " + text, Check.allOf(x), before);
+        } else {
+            Check.due("nothing of it is lived: " + text, Check.allOf(x), before);
+        }
     }
 
     private static void judged(String text, int line, int... told) {
@@ -288,6 +292,60 @@ public final class EdgeDiaryTest {
         Check.due("undo()", y.undo(), 0);
         Check.due("DAY, showings and RINGS", y.now(0) + y.now(7) + y.now(5), 0);
         Check.due("undo() again", y.undo(), -1);
+        noLineLived();
+    }
+
+    /** A DIARY of one LINE that is WRONG, for each reason: {days ahead of it, the LINE, why}. */
+    private static final String[][] WRONG_AT_ONCE = {
+        {"10", "ann shows ring;", "1"}, {"1", "ann shows ring;", "3"}, {"10", "rings bell;", "11"}, {"0", "tub sails 1;", "21"},
+        {"10", "tub sails 2;", "22"}, {"1", "tub sails 2;", "23"}, {"0", "gig sails 3;", "29"}, {"600", "day 1;", "31"},
+        {"599", "day 2;", "31"}, {"541", "day 60;", "31"}, {"1", "ann shows swim;", "2"}};
+
+    private static void noLineLived() {
+        for (String[] wrong : WRONG_AT_ONCE) {
+            for (String more : new String[] {"", "day 1;", "rings moon;day 2;"}) {
+                noneIsLived(Integer.parseInt(wrong[0]), wrong[1] + more, 0, Integer.parseInt(wrong[2]));
+            }
+        }
+        noneIsLived(0, "", -1, 0);
+        noneIsLived(1, " \n ", -1, 0);
+    }
+
+    /** Ahead of it ring is learnt on DAY 0 and rung on the last DAY, if it is 1 and there swim is shown. */
+    private static LakeLearns ahead(int day) {
+        LakeLearns x = Check.lakeOf(POND);
+        if (day > 0) {
+            x.show(0, 0);
+            Check.till(x, day);
+        }
+        if (day == 1) {
+            x.ring(0);
+            x.show(1, 1);
+        }
+        return x;
+    }
+
+    private static void noneIsLived(int day, String text, int line, int why) {
+        Check.by(15, "a DIARY that was lived is undone; where no LINE was lived it is none");
+        LakeLearns bare = ahead(day);
+        bare.image(0);
+        bare.restore(0);
+        Check.due("no act ahead: " + text, Check.diary(bare, 1, text), line);
+        Check.due("no act ahead, undo() behind " + text, bare.undo(), -1);
+        LakeLearns x = ahead(day);
+        LakeLearns y = ahead(day);
+        for (int times = 0; times < 9; times++) {
+            String before = Check.allOf(x);
+            Check.due("diary(1) on DAY " + day + ": " + text, Check.diary(x, 1, text), line);
+            Check.due("why: " + text, x.told(0), why);
+            Check.due("LINES that are not WRONG: " + text, x.told(1), 0);
+            Check.due("all stays: " + text, Check.allOf(x), before);
+        }
+        for (int more = y.undo(); more >= 0; more = y.undo()) {
+            Check.due("undo() behind " + text, x.undo(), more);
+            Check.due("undone is the act ahead of " + text, Check.allOf(x), Check.allOf(y));
+        }
+        Check.due("no more behind " + text, x.undo(), -1);
     }
 
     private static void lives() {

@@ -10,6 +10,7 @@ public final class EdgeKeptTest {
         eightAtMost();
         eachAct();
         whatIsNoAct();
+        noPlaceTaken();
         doneAgain();
         newLake();
         faultyLake();
@@ -122,6 +123,8 @@ public final class EdgeKeptTest {
         Check.diary(x, 0, "day 1;rings bell;");
         Check.diary(x, 1, "day 61;");
         Check.diary(x, 1, "day 1");
+        Check.due("a DIARY that is WRONG at once", Check.diary(x, 1, "tub sails 1;day 1;"), 0);
+        Check.due("one without a LINE", Check.diary(x, 1, ""), -1);
         Check.lake(x, "?");
         Check.sentence(x, "?");
         x.learnt();
@@ -143,6 +146,35 @@ public final class EdgeKeptTest {
         Check.due("refused by ice", ice.show(0, 0) + ice.ring(0) + ice.sail(0, 0), 4);
         Check.due("undo()", ice.undo(), 0);
         Check.due("DAY 0", ice.now(0), 0);
+    }
+
+    /** So many acts ahead of a DIARY of which no LINE is lived: it takes no place among those that are kept. */
+    private static void noPlaceTaken() {
+        Check.by(15, "a DIARY that was lived is undone: how many more can be (8 at most are kept)");
+        for (int acts = 0; acts <= 12; acts++) {
+            LakeLearns x = Check.lakeOf(POND);
+            for (int i = 0; i < acts; i++) {
+                Check.due("sail", x.sail(0, i % 2 == 0 ? 0 : 1), 0);
+            }
+            Check.due("WRONG at once", Check.diary(x, 1, acts % 2 == 0 ? "tub sails 1;" : "tub sails 0;day 1;"), 0);
+            int kept = Math.min(acts, 8);
+            for (int more = kept - 1; more >= 0; more--) {
+                Check.due(acts + " acts: undo()", x.undo(), more);
+            }
+            Check.due(acts + " acts: no more", x.undo(), -1);
+            Check.due(acts + " acts: voyages", x.boat(0, 3), acts - kept);
+            Check.due(acts + " acts: where it is", x.boat(0, 0), (acts - kept) % 2 == 0 ? 1 : 0);
+        }
+        LakeLearns y = Check.lakeOf(POND);
+        y.sail(0, 0);
+        Check.due("WRONG at once", Check.diary(y, 1, "tub sails 0;"), 0);
+        y.sail(0, 2);
+        Check.due("the voyage behind it", y.undo(), 1);
+        Check.due("is undone", y.boat(0, 0), 0);
+        Check.due("WRONG at LINE 1", Check.diary(y, 1, "tub sails 2;tub sails 2;"), 1);
+        Check.due("is an act", y.undo(), 1);
+        Check.due("the voyage ahead of all", y.undo(), 0);
+        Check.due("is undone too", y.boat(0, 0), 1);
     }
 
     private static void doneAgain() {

@@ -709,9 +709,6 @@ public final class ModelTest {
             }
             fault = 0;
             Life before = life.copy();
-            if (lives == 1) {
-                push();
-            }
             int why = 0;
             int line = 0;
             for (; line < lines.size(); line++) {
@@ -723,6 +720,8 @@ public final class ModelTest {
             told = new int[] {why, line, life.day, life.known()};
             if (lives == 0) {
                 life = before;
+            } else {
+                act(before, line > 0 ? 0 : -1);
             }
             return why == 0 ? -1 : line;
         }
